@@ -446,9 +446,11 @@ public final class CrownlessDays {
 
     /** The values, as bits, that may stand in place of one thing told so that all that was seen comes out. */
     private int fitting(int what) {
+        System.arraycopy(told, 0, trial, 0, told.length);
         int bits = 0;
         for (int v = 0; v <= TOLD_MOST[what]; v++) {
-            followWith(what, v);
+            trial[what] = v;
+            course.follow(trial);
             if (comesOutAsSeen()) {
                 bits |= 1 << v;
             }

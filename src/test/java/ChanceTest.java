@@ -52,6 +52,10 @@ public final class ChanceTest {
         out(x, 4, 0, 18, 1, 1);
         out(x, 4, 1, 20, 0, 1);
         out(x, 4, 1, 21, 3, 4);
+        x.set(1, 4);
+        out(x, 4, 1, 15, 0, 1);
+        out(x, 4, 1, 16, 3, 4);
+        x.set(1, 9);
         x.set(0, 1);
         out(x, 4, 0, 21, 3, 4);
         out(x, 4, 1, 18, 1, 1);

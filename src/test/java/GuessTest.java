@@ -114,6 +114,12 @@ public final class GuessTest {
         CrownlessDays y = Check.with("ab1;ac1;ad1;ae1;af1;ag1;gh3", "");
         // a: six alike by 1; b: by 2 five alike (c to g); g: by 2 five; h: by 5 five (b to f).
         Check.due("ask", y.ask(), 1);
+        // Died where c hears (a, b, c): a hears by 0, 2, 2; b by 2, 0, 4. The other three towns never hear alike.
+        CrownlessDays w = Check.with("ab2;ac2;de1;ef1", "c9o1b;c0o1.");
+        w.set(3, 7);
+        w.seen(0, 1);
+        Check.due("fits(1)", w.fits(1), 7);
+        Check.due("ask the town that tells all three", w.ask(), 1);
         CrownlessDays z = Check.with("ab1;ac1;ad1;ae1;af1;bc5;de5;gh1", "a9o1.");
         z.seen(0, 1);
         Check.due("none fits", z.ask(), 0);

@@ -23,6 +23,10 @@ public final class PlansTest {
         Check.due("sworn stay", x.count(6), 4);
         x.set(5, x.swear(1));
         Check.due("lost(0) when sworn", x.lost(0), 0);
+        CrownlessDays first = Check.with("ah9", "a9o1b;a0o4.");
+        first.set(4, 7);
+        Check.due("swear(0) of person 0 and town 0", first.swear(0), 1);
+        Check.due("swear(1) of person 0 and town 0", first.swear(1), 1);
         CrownlessDays y = Check.with("ab3", "a1o1b;b0o4.");
         Check.due("swear(0) of none", y.swear(0), 0);
         Check.due("swear(1) of none", y.swear(1), 0);

@@ -48,7 +48,7 @@ public final class RandomRunsTest {
 
     private static String randomRoads() {
         StringBuilder s = new StringBuilder();
-        int n = lots.nextInt(10), towns = 2 + lots.nextInt(7);
+        int n = lots.nextInt(13), towns = 2 + lots.nextInt(7);
         for (int i = 0; i < n; i++) {
             char a = letter(towns), b = letter(towns);
             b = a == b ? (char) (a == 'a' ? 'b' : a - 1) : b;

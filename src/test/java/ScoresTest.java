@@ -32,6 +32,15 @@ public final class ScoresTest {
         lost(x, 0, -1);
         Check.due("count(5)", x.count(5), 0);
         Check.due("count(4)", x.count(4), 15);
+        // The first one that there is not, once there have been more.
+        CrownlessDays y = Check.with("ah9", "a9b1c;a0o2.;a0o3.");
+        y.set(4, 7);
+        ride(y, 0, 0, 1, 4);
+        for (int i = 0; i < 6; i++) {
+            y.undo(1);
+        }
+        Check.due("count(1)", y.count(1), 2);
+        ride(y, 0, -1, 0, 1);
     }
 
     private static void guards() {

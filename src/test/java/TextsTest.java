@@ -64,6 +64,8 @@ public final class TextsTest {
         Check.due("count(0)", x.count(0), 1);
         Check.due("way(0, 1)", x.way(0, 1), 1);
         Check.due("wipe(0)", x.wipe(0), 3);
+        Check.due("fault of a wiped one", x.fault(0), -1);
+        Check.due("count(0) of a wiped one", x.count(0), 0);
         Check.due("undo(0) of an empty one", x.undo(0), CrownlessDays.NOT);
         Check.due("way(0, 1) undone", x.way(0, 1), -1);
         Check.due("the other text stays", x.count(3), 5);
