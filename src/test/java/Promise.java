@@ -156,7 +156,7 @@ abstract class Promise {
         }
         all.add("forget() = " + x.forget());
         for (int text = 0; text < 2; text++) {
-            for (int left = 1; left > 0; ) {
+            for (int left = 1, i = 0; left > 0 && i < 48; i++) {
                 all.add("fault(" + text + ") = " + x.fault(text));
                 left = x.undo(text);
             }

@@ -37,6 +37,15 @@ public final class Promise13Test extends Promise {
             }
             ride(x, 0, NONE, STAYS, 4);
         });
+        test(13, "one that is undone does not RIDE", () -> {
+            CrownlessDays x = neverCrowned("", "a0o1.;a9b4a");
+            due("lost(0)", x.lost(0), 1);
+            for (int i = 0; i < 6; i++) {
+                x.undo(1);
+            }
+            due("rides(1, 1)", x.rides(1, 1), BAD);
+            ride(x, 0, NONE, STAYS, 1);
+        });
         test(13, "the last of 8 is one that there is", () ->
                 ride(neverCrowned("", "a9b4h;a0o0.;a0o0.;a0o0.;a0o0.;a0o0.;a0o0.;a0o5."), 0, 0, WINS, 9));
         test(13, "whose TOWN never HEARS does not RIDE", () ->

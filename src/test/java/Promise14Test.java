@@ -18,6 +18,15 @@ public final class Promise14Test extends Promise {
             y.set(5, 2);
             lost(y, 1, 0);
         });
+        test(14, "who is undone does not count", () -> {
+            CrownlessDays x = neverCrowned("", "a0o1.;a9b4a");
+            lost(x, 1, 0);
+            for (int i = 0; i < 6; i++) {
+                x.undo(1);
+            }
+            lost(x, 0, NONE);
+            due("count(5)", x.count(5), 0);
+        });
         test(14, "7 of 8 WIN at the most", () ->
                 lost(neverCrowned("", "a9o1h;a9o1h;a9o1h;a9o1h;a9o1h;a9o1h;a9c1h;a0o1."), 7, 1));
         test(14, "144 is the latest LAST", () -> {

@@ -12,6 +12,8 @@ public final class Promise15Test extends Promise {
         });
         test(15, "a TOWN in which two WIN swears once", () ->
                 swear(neverCrowned("", "a9o1c;a9o1d;a0o1.;a0o1."), 1, 1));
+        test(15, "PERSON 7 alone WINS", () ->
+                swear(neverCrowned("ab1", "a0o0.;a0o0.;a0o0.;a0o0.;a0o0.;a0o0.;b0o1.;a9o1g"), 1, 2));
         test(15, "it is that one's TOWN, not its own", () -> swear(neverCrowned("ab1", "a9o1b;b0o1."), 1, 2));
         test(15, "where all are BEATEN or TOO LATE a TOWN need not swear", () -> {
             swear(neverCrowned("ab1;ac1", "a9o1c;a0o1d;b0o1.;c0o1."), 1, 2);

@@ -27,6 +27,15 @@ public final class Promise21Test extends Promise {
             typeIn(x, 1, ";a9o1a");
             fits(x, 1023, 1);
         });
+        test(21, "one that there was, then is not", () -> {
+            CrownlessDays x = neverCrowned("", "a0o1.;a9o1a");
+            x.seen(1, 1);
+            fits(x, 1023, 1);
+            for (int i = 0; i < 6; i++) {
+                x.undo(1);
+            }
+            fits(x, 0, 0);
+        });
         test(21, "WON: where its TOWN HEARS; not WON: elsewhere", () -> {
             CrownlessDays x = neverCrowned("ab2", "a9o1b;b0o1.");
             x.seen(0, 1);

@@ -30,6 +30,14 @@ public final class Promise22Test extends Promise {
             due("fits(1)", x.fits(1), 135);
             due("ask()", x.ask(), 7);
         });
+        test(22, "TOWN 7 counts among those by which it HEARS alike", () -> {
+            // Of a, b, h: a hears by b and h alike, b by each on a day of its own.
+            CrownlessDays x = with("ab2;ah2", "a9o1b;a0o1.");
+            x.set(3, 3);
+            x.seen(0, 1);
+            due("fits(1)", x.fits(1), 131);
+            due("ask()", x.ask(), 1);
+        });
         test(22, "only the TOWNS that fit count", () -> {
             CrownlessDays x = neverCrowned("ab2;ac2;de1;ef1", "c9o1b;c0o1.");
             due("ask() with nothing SEEN", x.ask(), 0);

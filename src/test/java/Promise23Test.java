@@ -103,6 +103,13 @@ public final class Promise23Test extends Promise {
             out(x, 0, 1, 1, 1, 1);
             out(x, 16, 1, 1, 0, 1);
         });
+        test(23, "the first six and the last six of 12 ROADS, all needed", () -> {
+            String six = "ab1;bc1;cd1;de1;ef1;fg1", others = "gh1;gh2;gh3;gh4;gh5;gh6";
+            out(with(six + ";" + others, ""), 8, 6, 6, 1, 64);
+            out(with(others + ";" + six, ""), 8, 6, 6, 1, 64);
+            out(with(others + ";" + six, ""), 8, 7, 7, 1, 128);
+            out(with(others + ";" + six, ""), 8, 7, 12, 63, 4096);
+        });
         test(23, "each of 12 ROADS alone", () -> {
             for (int r = 0; r < 12; r++) {
                 StringBuilder roads = new StringBuilder();

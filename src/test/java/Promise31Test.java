@@ -36,6 +36,16 @@ public final class Promise31Test extends Promise {
             x.set(0, 2);
             due("count(5), DIED at c", x.count(5), 0);
         });
+        test(31, "who is not there does not COME, nor who is undone", () -> {
+            due("count(5) of two", neverCrowned("", "a9o1b;a0o1.").count(5), 1);
+            CrownlessDays x = neverCrowned("", "a9o1b;a0o1.;a9o1a");
+            due("count(5) of three", x.count(5), 2);
+            for (int i = 0; i < 6; i++) {
+                x.undo(1);
+            }
+            due("count(5), one undone", x.count(5), 1);
+            due("count(4), one undone", x.count(4), 2);
+        });
         test(31, "SWORN as bits, 0 to 255", () -> {
             CrownlessDays x = new CrownlessDays();
             x.set(5, 255);

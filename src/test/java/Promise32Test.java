@@ -11,6 +11,12 @@ public final class Promise32Test extends Promise {
             due("digest() of a used one", used().digest(), byHand(used()));
             due("digest() of a full one", full().digest(), byHand(full()));
         });
+        test(32, "with a TOWN to ask other than 0, and NONE for many", () -> {
+            CrownlessDays x = with("cd1;ce1;gh9", "c9o1b;d0o4.");
+            x.set(0, 2);
+            due("ask()", x.ask(), 2);
+            due("digest()", x.digest(), byHand(x));
+        });
         test(32, "one ROAD, one PERSON", () -> {
             due("digest() of one road", with("ab1", "").digest(), byHand(with("ab1", "")));
             due("digest() of one person", with("", "a1o1.").digest(), byHand(with("", "a1o1.")));
