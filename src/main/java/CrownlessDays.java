@@ -4,10 +4,16 @@ import java.util.Arrays;
 public final class CrownlessDays {
     public static final int NONE = -1, BAD = -2, NOT = -3, FULL = -4;
 
+    // Written out, for LANGUAGE.md lets in the functions of Integer and Long, not their constants.
+    private static final int LEAST_INT = -2147483648;
+    private static final long LEAST_LONG = -9223372036854775808L;
+
     private static final int NULL = 1, INDEX = 2, CAST = 3, STORE = 4, SIZE = 5;
 
     private static final int TOWNS = 8, ROADS = 12, PERSONS = 8, TEXT_BYTES = 47;
     private static final int SEEN_MOST = 8, SHEETS = 4, FORMS = 3, SHEET_ITEMS = 60;
+    // Above the day of any crowning (145 at the latest), and any number of wins or towns (8).
+    private static final int BEYOND_ALL = 1000;
     private static final int LAST_DAY_ASKED = 99, SIXTEENTHS = 16, REIGNS_MOST = 20, HIDDEN_MOST = 9;
 
     private static final int DIED = 0, DAY = 1, HIDDEN = 2, HEIR = 3, CROWN = 4, SWORN = 5;
@@ -173,10 +179,10 @@ public final class CrownlessDays {
         if (!within(what, 1)) {
             return BAD;
         }
-        int best = 0, fewest = Integer.MAX_VALUE, soonest = Integer.MAX_VALUE;
+        int best = 0, fewest = BEYOND_ALL, soonest = BEYOND_ALL;
         for (int town = 0; town < TOWNS; town++) {
             followWith(CROWN, town);
-            int when = course.crowning == NONE ? Integer.MAX_VALUE : course.crowning;
+            int when = course.crowning == NONE ? BEYOND_ALL : course.crowning;
             if (course.wins < fewest || course.wins == fewest && when < soonest) {
                 best = town;
                 fewest = course.wins;
@@ -190,7 +196,7 @@ public final class CrownlessDays {
         if (!within(what, 1)) {
             return BAD;
         }
-        int best = 0, fewest = Integer.MAX_VALUE;
+        int best = 0, fewest = BEYOND_ALL;
         for (int days = 0; days <= HIDDEN_MOST; days++) {
             followWith(HIDDEN, days);
             if (course.wins < fewest) {
@@ -245,7 +251,7 @@ public final class CrownlessDays {
 
     public int ask() {
         int where = fitting(DIED);
-        int best = 0, least = Integer.MAX_VALUE;
+        int best = 0, least = BEYOND_ALL;
         for (int town = 0; town < TOWNS; town++) {
             int most = mostAlike(town, where);
             if (most < least) {
@@ -258,7 +264,7 @@ public final class CrownlessDays {
 
     public long out(int c, int town, int day, int what) {
         if (!within(c, SIXTEENTHS) || !isTown(town) || !within(day, LAST_DAY_ASKED) || !within(what, 1)) {
-            return Long.MIN_VALUE - BAD;
+            return LEAST_LONG - BAD;
         }
         chance.reckon(c, told[DIED], town, day - told[DAY] - told[HIDDEN]);
         return what == 0 ? chance.above : chance.below;
@@ -318,7 +324,7 @@ public final class CrownlessDays {
     }
 
     public int get(int s, int form, int i) {
-        return refusalOfItem(s, form, i) == 0 ? sheets[s].items[i] : Integer.MIN_VALUE;
+        return refusalOfItem(s, form, i) == 0 ? sheets[s].items[i] : LEAST_INT;
     }
 
     public int copy(int s, int i, int t, int j, int n) {

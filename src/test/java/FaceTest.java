@@ -24,6 +24,10 @@ public final class FaceTest {
         "throw", "try", "catch", "synchronized", "assert", "import static", "System.out", "Exact", "::", "->", "@",
         "volatile", "native", "protected", "package", "Object", "hashCode", "toString", "Thread", "Random", "HashMap"};
 
+    /** What the class may name of the library; LANGUAGE.md lists functions there, so no MAX_VALUE. */
+    private static final Set<String> LIBRARY = Set.of("Arrays.fill", "Arrays.copyOf", "Arrays.copyOfRange",
+        "System.arraycopy", "Math.min", "Math.max", "Math.abs", "Integer.bitCount");
+
     public static void main(String[] args) throws IOException {
         constants();
         methods();
@@ -85,8 +89,22 @@ public final class FaceTest {
             Check.holds(c + " is not open", !Modifier.isPublic(c.getModifiers()) && !Modifier.isProtected(c.getModifiers()));
             for (Method m : c.getDeclaredMethods()) {
                 Check.holds(m + ": at most seven parameters", m.getParameterCount() <= 7);
+                Check.holds(m + ": not a name of the face", !isOfTheFace(m.getName()));
+            }
+            for (Field f : c.getDeclaredFields()) {
+                Check.holds(f + ": static is final",
+                        !Modifier.isStatic(f.getModifiers()) || Modifier.isFinal(f.getModifiers()));
             }
         }
+    }
+
+    private static boolean isOfTheFace(String name) {
+        for (String method : FACE) {
+            if (method.contains(" " + name + "(")) {
+                return true;
+            }
+        }
+        return false;
     }
 
     private static void text(String source) {
@@ -99,6 +117,10 @@ public final class FaceTest {
         Matcher imports = Pattern.compile("import ([^;]+);").matcher(code);
         while (imports.find()) {
             Check.holds("import " + imports.group(1), Set.of("java.util.Arrays").contains(imports.group(1)));
+        }
+        Matcher library = Pattern.compile("(?<![\\w.])[A-Z]\\w*[a-z]\\w*\\.\\w+").matcher(code.replaceAll("import [^;]+;", ""));
+        while (library.find()) {
+            Check.holds("library: " + library.group(), LIBRARY.contains(library.group()));
         }
         shortMethods(code);
     }
